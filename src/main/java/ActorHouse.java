@@ -103,7 +103,9 @@ public final class ActorHouse {
 
     public int build() {
         Program read = new Program(text.length());
-        Parser parser = new Parser(new Reader(text.toString()), read);
+        Reader reader = new Reader(text.toString());
+        reader.cutAll();
+        Parser parser = new Parser(reader, read);
         parser.readAll();
         if (read.faultNumber == 0) {
             read.declare();
@@ -342,34 +344,53 @@ public final class ActorHouse {
         private static final int MOST_DIGITS = 9;
 
         private final String text;
-        private int next;
+        private final int[] tokens;
+        private final int[] places;
+        private final int[] ends;
+        private int count;
+        private int current;
         int token;
         int place;
         int refusedAt;
 
         Reader(String text) {
             this.text = text;
-            next = 0;
+            tokens = new int[text.length() + 1];
+            places = new int[text.length() + 1];
+            ends = new int[text.length() + 1];
+            count = 0;
+            current = NONE;
             token = END;
             place = 0;
             refusedAt = NONE;
+        }
+
+        void cutAll() {
+            int at = 0;
+            while (at < text.length() && count < tokens.length) {
+                if (text.charAt(at) == ' ') {
+                    at++;
+                } else {
+                    int end = endOf(at);
+                    tokens[count] = isAlphanumeric(text.charAt(at)) ? rowToken(at, end) : signToken(at, end);
+                    places[count] = at;
+                    ends[count] = end;
+                    count++;
+                    at = end;
+                }
+            }
         }
 
         void advance() {
             if (refusedAt != NONE) {
                 return;
             }
-            while (next < text.length() && text.charAt(next) == ' ') {
-                next++;
+            if (current < count) {
+                current++;
             }
-            place = next;
-            if (next >= text.length()) {
-                token = END;
-            } else if (isAlphanumeric(text.charAt(next))) {
-                readRow();
-            } else {
-                readSign();
-            }
+            boolean isThere = current >= 0 && current < count;
+            token = isThere ? tokens[current] : END;
+            place = isThere ? places[current] : text.length();
         }
 
         /** From here on no token fits anything, so every loop of the parser ends by itself. */
@@ -389,69 +410,76 @@ public final class ActorHouse {
         }
 
         String word() {
-            return text.substring(place, next);
+            return current < 0 || current >= count ? "" : text.substring(places[current], ends[current]);
         }
 
         int number() {
             int value = 0;
-            for (int i = place; i < next; i++) {
-                value = value * 10 + (text.charAt(i) - '0');
+            if (current >= 0 && current < count) {
+                for (int i = places[current]; i < ends[current]; i++) {
+                    value = value * 10 + (text.charAt(i) - '0');
+                }
             }
             return value;
         }
 
-        private void readSign() {
-            char sign = text.charAt(next);
-            next++;
-            if (sign == '=' && next < text.length() && text.charAt(next) == '=') {
-                next++;
-                token = SAME;
-                return;
+        private int endOf(int begin) {
+            int at = begin;
+            while (at < text.length() && isAlphanumeric(text.charAt(at))) {
+                at++;
             }
-            int found = SIGNS.indexOf(sign);
-            token = found < 0 ? BAD : OPEN_BLOCK + found;
+            if (at > begin) {
+                return at;
+            }
+            boolean isSame = text.charAt(at) == '=' && at + 1 < text.length() && text.charAt(at + 1) == '=';
+            return isSame ? at + 2 : at + 1;
         }
 
-        private void readRow() {
+        private int signToken(int begin, int end) {
+            if (end - begin == 2) {
+                return SAME;
+            }
+            int found = SIGNS.indexOf(text.charAt(begin));
+            return found < 0 ? BAD : OPEN_BLOCK + found;
+        }
+
+        private int rowToken(int begin, int end) {
             boolean digitsAlone = true;
             boolean anyGreat = false;
-            while (next < text.length() && isAlphanumeric(text.charAt(next))) {
-                char c = text.charAt(next);
-                digitsAlone = digitsAlone && isDigit(c);
-                anyGreat = anyGreat || isGreat(c);
-                next++;
+            for (int i = begin; i < end; i++) {
+                digitsAlone = digitsAlone && isDigit(text.charAt(i));
+                anyGreat = anyGreat || isGreat(text.charAt(i));
             }
-            char first = text.charAt(place);
-            int length = next - place;
             if (digitsAlone) {
-                token = length <= MOST_DIGITS ? NUMBER : BAD;
-            } else if (isDigit(first) || length > MOST_WORD) {
-                token = BAD;
-            } else if (isGreat(first)) {
-                token = TITLE;
-            } else {
-                token = anyGreat ? BAD : nameOrKeyword(length);
+                return end - begin <= MOST_DIGITS ? NUMBER : BAD;
             }
+            if (isDigit(text.charAt(begin)) || end - begin > MOST_WORD) {
+                return BAD;
+            }
+            if (isGreat(text.charAt(begin))) {
+                return TITLE;
+            }
+            return anyGreat ? BAD : nameOrKeyword(begin, end - begin);
         }
 
-        private int nameOrKeyword(int length) {
+        private int nameOrKeyword(int begin, int length) {
             int number = CLASS;
-            int begin = 0;
+            int wordBegin = 0;
             for (int i = 0; i < WORDS.length(); i++) {
                 if (WORDS.charAt(i) == ' ') {
-                    if (i - begin == length && isWordAt(begin, length)) {
+                    if (i - wordBegin == length && isWordAt(wordBegin, begin, length)) {
                         return number;
                     }
                     number++;
-                    begin = i + 1;
+                    wordBegin = i + 1;
                 }
             }
             return NAME;
         }
 
-        private boolean isWordAt(int begin, int length) {
+        private boolean isWordAt(int wordBegin, int begin, int length) {
             for (int i = 0; i < length; i++) {
-                if (WORDS.charAt(begin + i) != text.charAt(place + i)) {
+                if (WORDS.charAt(wordBegin + i) != text.charAt(begin + i)) {
                     return false;
                 }
             }
@@ -554,6 +582,8 @@ public final class ActorHouse {
         Node body;
         int locals;
         int entry;
+        boolean takesSendable;
+        boolean isHarmless;
 
         Method(int sort, Kind owner, int number, String name, int place) {
             this.sort = sort;
@@ -568,19 +598,8 @@ public final class ActorHouse {
             body = null;
             locals = 0;
             entry = 0;
-        }
-
-        boolean takesSendable() {
-            for (int i = 0; i < parameters.size(); i++) {
-                if (!sendable(parameters.get(i).type)) {
-                    return false;
-                }
-            }
-            return true;
-        }
-
-        boolean isHarmless() {
-            return takesSendable() && (result == null || sendable(result.type));
+            takesSendable = true;
+            isHarmless = true;
         }
     }
 
@@ -673,7 +692,13 @@ public final class ActorHouse {
             in.advance();
             int count = 0;
             while (count < MOST_KINDS && (in.token == Reader.CLASS || in.token == Reader.ACTOR_WORD)) {
-                readKind();
+                Kind kind = readHead();
+                readFields(kind);
+                readMaker(kind);
+                for (int i = 0; i <= MOST_METHODS && (in.token == Reader.FUN || in.token == Reader.BE); i++) {
+                    readMethod(kind);
+                }
+                take(Reader.CLOSE_BLOCK);
                 count++;
             }
             if (count == 0 || in.token != Reader.END) {
@@ -684,23 +709,14 @@ public final class ActorHouse {
             }
         }
 
-        private void readKind() {
+        private Kind readHead() {
             boolean isActor = in.token == Reader.ACTOR_WORD;
             in.advance();
             int place = in.place;
             Kind kind = new Kind(takeWord(Reader.TITLE), place, isActor, out.kinds.size());
             out.kinds.add(kind);
             take(Reader.OPEN_BLOCK);
-            readFields(kind);
-            readMaker(kind);
-            for (int i = 0; i <= MOST_METHODS && (in.token == Reader.FUN || in.token == Reader.BE); i++) {
-                if (i == MOST_METHODS || in.token == Reader.BE && !isActor) {
-                    in.refuse();
-                } else {
-                    readMethod(kind);
-                }
-            }
-            take(Reader.CLOSE_BLOCK);
+            return kind;
         }
 
         private void readFields(Kind kind) {
@@ -728,6 +744,9 @@ public final class ActorHouse {
 
         private void readMethod(Kind kind) {
             int sort = in.token == Reader.FUN ? Method.FUN : Method.BE;
+            if (kind.methods.size() >= MOST_METHODS || sort == Method.BE && !kind.isActor) {
+                in.refuse();
+            }
             in.advance();
             int capPlace = in.place;
             int cap = sort == Method.FUN ? takeCap() : REF;
@@ -772,15 +791,14 @@ public final class ActorHouse {
 
         private void readType(Decl decl) {
             out.types.add(decl);
-            if (!skip(Reader.INT_WORD)) {
-                readTitle(decl);
+            if (in.token == Reader.INT_WORD && !decl.behindNew) {
+                in.advance();
+                return;
             }
-        }
-
-        private void readTitle(Decl decl) {
             if (in.atCap()) {
                 decl.capPlace = in.place;
-                decl.cap = takeCap();
+                decl.cap = in.token - Reader.FIRST_CAP;
+                in.advance();
             }
             decl.titlePlace = in.place;
             decl.title = takeWord(Reader.TITLE);
@@ -989,8 +1007,7 @@ public final class ActorHouse {
             Node node = readWord(Node.NEW);
             node.decl = new Decl("", in.place);
             node.decl.behindNew = true;
-            out.types.add(node.decl);
-            readTitle(node.decl);
+            readType(node.decl);
             node.spot = node.decl.titlePlace;
             readArguments(node, method, depth);
             return node;
@@ -1011,7 +1028,9 @@ public final class ActorHouse {
         }
 
         private void take(int token) {
-            if (!skip(token)) {
+            if (in.token == token) {
+                in.advance();
+            } else {
                 in.refuse();
             }
         }
@@ -1172,15 +1191,16 @@ public final class ActorHouse {
             if (ofActor && method.sort == Method.FUN && method.cap != REF) {
                 note(4, method.capPlace);
             }
-            if (!ofActor || method.sort == Method.FUN) {
-                return;
-            }
             for (int i = 0; i < method.parameters.size(); i++) {
                 Decl parameter = method.parameters.get(i);
-                if (parameter.type != NOTHING && !sendable(parameter.type)) {
-                    note(4, parameter.place);
+                if (!sendable(parameter.type)) {
+                    method.takesSendable = false;
+                    if (ofActor && method.sort != Method.FUN && parameter.type != NOTHING) {
+                        note(4, parameter.place);
+                    }
                 }
             }
+            method.isHarmless = method.takesSendable && (method.result == null || sendable(method.result.type));
         }
 
         int emit(int code, int operand) {
@@ -1268,7 +1288,8 @@ public final class ActorHouse {
         /** Of a body the first fault that is met counts, wherever it lies. */
         private void refuse(int number, int place) {
             if (out.faultNumber == 0) {
-                out.note(number, place);
+                out.faultNumber = number;
+                out.faultPlace = place;
             }
         }
 
@@ -1411,22 +1432,16 @@ public final class ActorHouse {
         }
 
         private void requireInt(Node node, int type) {
-            if (requireSomething(node, type) && sortOf(type) != INT) {
-                refuse(5, node.place);
+            if (sortOf(type) != INT) {
+                refuse(sortOf(type) == NOTHING ? 8 : 5, node.place);
             }
-        }
-
-        private boolean requireSomething(Node node, int type) {
-            if (sortOf(type) == NOTHING) {
-                refuse(8, node.place);
-                return false;
-            }
-            return true;
         }
 
         private int checkValue(Node node) {
             int type = checkExpression(node);
-            requireSomething(node, type);
+            if (sortOf(type) == NOTHING) {
+                refuse(8, node.place);
+            }
             if (sortOf(type) == OWN) {
                 return typeOf(ACTOR, kindOf(type), REF);
             }
@@ -1568,8 +1583,8 @@ public final class ActorHouse {
 
         private int checkHas(Node node) {
             int type = checkExpression(node.first);
-            if (requireSomething(node.first, type) && sortOf(type) == INT) {
-                refuse(5, node.first.place);
+            if (sortOf(type) == NOTHING || sortOf(type) == INT) {
+                refuse(sortOf(type) == NOTHING ? 8 : 5, node.first.place);
             }
             out.emit(World.HAS, 0);
             return INT;
@@ -1626,11 +1641,8 @@ public final class ActorHouse {
 
         /** The kind whose fields and funs can be used on what is ahead of a dot; null if there is none. */
         private Kind checkOwner(Node ahead, int type) {
-            if (!requireSomething(ahead, type)) {
-                return null;
-            }
             if (sortOf(type) != OBJECT && sortOf(type) != OWN) {
-                refuse(5, ahead.place);
+                refuse(sortOf(type) == NOTHING ? 8 : 5, ahead.place);
                 return null;
             }
             return out.kind(kindOf(type));
@@ -1661,10 +1673,10 @@ public final class ActorHouse {
 
         private boolean canBeCalledOn(Method called, Node ahead, int cap) {
             if (ahead.isPlace() && cap == TRN) {
-                return called.cap == BOX || called.cap == REF && called.isHarmless();
+                return called.cap == BOX || called.cap == REF && called.isHarmless;
             }
             if (ahead.isPlace() && cap == ISO) {
-                return (called.cap == REF || called.cap == BOX) && called.isHarmless();
+                return (called.cap == REF || called.cap == BOX) && called.isHarmless;
             }
             return look(AS_GOOD, cap, called.cap) == 1;
         }
@@ -1681,11 +1693,8 @@ public final class ActorHouse {
         }
 
         private int checkMessage(Node node, int type) {
-            if (!requireSomething(node.ahead, type)) {
-                return NOTHING;
-            }
             if (sortOf(type) != ACTOR && sortOf(type) != OWN) {
-                refuse(5, node.ahead.place);
+                refuse(sortOf(type) == NOTHING ? 8 : 5, node.ahead.place);
                 return NOTHING;
             }
             Kind kind = out.kind(kindOf(type));
@@ -1707,7 +1716,7 @@ public final class ActorHouse {
                 return type;
             }
             checkArgumentsFit(node, kind.maker);
-            if (sortOf(type) == OBJECT && isClosed(capOf(type)) && !kind.maker.takesSendable()) {
+            if (sortOf(type) == OBJECT && isClosed(capOf(type)) && !kind.maker.takesSendable) {
                 refuse(6, node.place);
             }
             out.emit(kind.isActor ? World.NEW_ACTOR : World.NEW_OBJECT, kind.maker.number);
@@ -2300,16 +2309,32 @@ public final class ActorHouse {
         private void writeHead(World world, int type, int value) {
             Kind kind = world.code.kind(kindOf(type));
             if (sortOf(type) == INT) {
-                written.append(value);
+                writeNumber(value);
             } else if (value == 0 || kind == null) {
                 written.append("none");
             } else {
                 written.append(kind.title);
                 written.append(sortOf(type) == ACTOR ? '@' : '#');
-                written.append(sortOf(type) == ACTOR ? value - 1 : value);
+                writeNumber(sortOf(type) == ACTOR ? value - 1 : value);
                 if (sortOf(type) == OBJECT) {
                     openObject(value);
                 }
+            }
+        }
+
+        /** Digit by digit, so that writing makes no objects. */
+        private void writeNumber(int value) {
+            long rest = value;
+            if (rest < 0) {
+                written.append('-');
+                rest = -rest;
+            }
+            long unit = 1;
+            for (int digits = 1; digits < 10 && unit <= rest / 10; digits++) {
+                unit *= 10;
+            }
+            for (; unit > 0; unit /= 10) {
+                written.append((char) ('0' + rest / unit % 10));
             }
         }
 
