@@ -381,6 +381,9 @@ public final class CheckerTest {
         String x = "var x:iso A=none;";
         bad(7, x + "if 1{consume x;}consume ^x;");
         bad(7, x + "if 1{}else{consume x;}consume ^x;");
+        bad(7, x + "if 1{consume x;}else{}consume ^x;");
+        bad(7, x + "if 1{consume x;}else{consume x;}consume ^x;");
+        bad(7, x + "if 1{consume x;x=none;}else{consume x;}consume ^x;");
         bad(7, x + "if has(consume x){}consume ^x;");
         bad(7, x + "if has(consume x){x=none;}consume ^x;");
         bad(7, x + "if has(consume x){x=none;}else{}consume ^x;");

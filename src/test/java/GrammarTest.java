@@ -35,6 +35,14 @@ public final class GrammarTest {
         CHECKS.bad(1, "actor^\tMain{new(){}}");
         CHECKS.bad(1, "actor^\nMain{new(){}}");
         CHECKS.bad(1, "^actorMain{new(){}}");
+        CHECKS.good("actor Main{var az09:int;var zz:int;new(){}}class AZaz09{new(){}}class Zz{new(){}}");
+        for (char c : "@[`{/:^_\u00e0\u00ff\u0000\u007f".toCharArray()) {
+            if (c != '^' && c != ':' && c != '{') {
+                CHECKS.bad(1, "actor Main{var a^" + c + ":int;new(){}}");
+            }
+        }
+        CHECKS.bad(1, "actor Main{new(){tell 1==^");
+        CHECKS.bad(1, "actor Main{new(){a=^");
         CHECKS.bad(1, body("tell 1 ^/ 1;"));
         CHECKS.good(body("tell 1==1;"));
         CHECKS.bad(1, body("tell 1= ^= 1;").replace("= ^=", "^= ="));
@@ -208,6 +216,29 @@ public final class GrammarTest {
         CHECKS.bad(1, body("tell " + Checks.repeat("(", 22) + "swap(^a,1)" + Checks.repeat(")", 22) + ";"));
         CHECKS.bad(1, body("tell " + Checks.repeat("(", 22) + "this.f(^1)" + Checks.repeat(")", 22) + ";"));
         CHECKS.bad(3, body("tell " + Checks.repeat("(", 22) + "this.^f()" + Checks.repeat(")", 22) + ";"));
+        String open = Checks.repeat("(", 21);
+        String close = Checks.repeat(")", 21);
+        String made = "class A{var n:int;new(n:int){}fun ref f(n:int):int{return n;}}actor Main{var a:ref A;var n:int;new(){";
+        CHECKS.good(made + open + "new A(1)" + close + ";}}");
+        CHECKS.bad(1, made + open + "new A((^1))" + close + ";}}");
+        CHECKS.good(made + open + "this.a.f(1)" + close + ";}}");
+        CHECKS.bad(1, made + open + "this.a.f((^1))" + close + ";}}");
+        CHECKS.good(made + open + "swap(this.n,1)" + close + ";}}");
+        CHECKS.bad(1, made + open + "swap(this.n,(^1))" + close + ";}}");
+        CHECKS.bad(1, made + open + "swap((^this.n),1)" + close + ";}}");
+        CHECKS.good(made + open + "has(none)" + close + ";}}");
+        CHECKS.good(made + "(" + open + "this.n" + close + ")=1;}}");
+        CHECKS.bad(1, made + "((" + open + "^this.n" + close + "))=1;}}");
+        CHECKS.good(made + "this.n=(" + open + "1" + close + ");}}");
+        CHECKS.bad(1, made + "this.n=((" + open + "^1" + close + "));}}");
+        CHECKS.good(made + "var x:int=(" + open + "1" + close + ");}}");
+        CHECKS.bad(1, made + "var x:int=((" + open + "^1" + close + "));}}");
+        String returned = "}fun ref f():int{return (";
+        CHECKS.good(made + returned + open + "1" + close + ");}}");
+        CHECKS.bad(1, made + returned + "(" + open + "^1" + close + "));}}");
+        CHECKS.good(body(Checks.repeat("if 1{}else{", 23) + Checks.repeat("}", 23)));
+        CHECKS.bad(1, body(Checks.repeat("if 1{}else{", 23) + "^x;" + Checks.repeat("}", 23)));
+        CHECKS.bad(1, body(Checks.repeat("if 1{", 22) + "if 1{}else{^x;}" + Checks.repeat("}", 22)));
         CHECKS.bad(1, body("tell " + Checks.repeat("(", 22) + "new Main(^1)" + Checks.repeat(")", 22) + ";"));
     }
 

@@ -5,16 +5,20 @@ public final class RunTest {
     public static void main(String[] args) {
         startNumbers();
         startAgain();
+        startInTheMiddle();
         stepNumbers();
         instructionsOfEach();
         branches();
         arithmetic();
+        namesAndSwaps();
         callsAndBodies();
+        manyLocals();
         mailboxes();
         fullMailbox();
         fullOfItself();
         failNone();
         failCells();
+        manyObjects();
         failBodies();
         failActors();
         failOrder();
@@ -62,6 +66,35 @@ public final class RunTest {
         CHECKS.shows(house, 0, 0, "0");
         house.step(0, 200);
         CHECKS.shows(house, 0, 0, "1");
+    }
+
+    /** Nothing of what ran is left: no body, message, fail or full mailbox. */
+    private static void startInTheMiddle() {
+        String text = "actor Main{var m:Main;new(){new W(this);new W(none);this!a(this.two());this!a(1);this.m!a(1);}"
+            + "be a(n:int){this!a(n);this.m!a(n);}fun ref two():int{return 2;}}actor W{new(m:Main){m!a(3);m!a(4);m!a(5);}}";
+        ActorHouse house = CHECKS.built(text);
+        int[] first = null;
+        for (int round = 0; round < 4; round++) {
+            CHECKS.isTrue("start", house.start(20, 2));
+            CHECKS.same("messages", house.actor(0, 2), 1);
+            CHECKS.same("bodies", house.actor(0, 1), 0);
+            CHECKS.same("fails", house.actor(0, 4), 0);
+            for (int what = 3; what < 8; what++) {
+                CHECKS.same("world(" + what + ")", house.world(what), what == 5 ? 1 : 0);
+            }
+            house.step(0, 18);
+            house.step(1, 40);
+            house.step(2, 7);
+            house.step(0, 30);
+            int[] now = {house.world(5), house.world(7), house.actor(1, 2), house.actor(2, 4), house.actor(1, 4)};
+            first = first == null ? now : first;
+            for (int i = 0; i < now.length; i++) {
+                CHECKS.same("count " + i + " of round " + round, now[i], first[i]);
+            }
+            CHECKS.isTrue("a full mailbox was met", house.world(6) > 0);
+            CHECKS.isTrue("a fail was met", house.world(7) > 0);
+            house.step(0, 1 + round);
+        }
     }
 
     private static void stepNumbers() {
@@ -148,6 +181,44 @@ public final class RunTest {
         int sum = 999999999 * 3;
         CHECKS.same("told", Checks.told(house), "9@0,-2@0,1@0,0@0,0@0,1@0,0@0," + product + "@0," + sum + "@0,"
             + -sum + "@0,2@0,1@0");
+    }
+
+    private static void namesAndSwaps() {
+        ActorHouse house = CHECKS.started("class A{var n:int;new(){}}actor Main{var n:int;var a:ref A;new(){"
+            + "tell has(none);tell has(this);tell has(this.a);this.a=new A();tell has(this.a);"
+            + "var x:int=5;tell swap(x,6);tell x;tell swap(x,x+1)*100+x;tell swap(this.n,3);tell this.n;tell swap(this.n,this.n+1);"
+            + "tell this.n;var y:ref A=none;tell has(swap(y,this.a));tell has(y);tell swap(y.n,8);tell this.a.n;tell consume x;"
+            + "tell recover{var z:int=4;z=z+z;give z*2;}+1;x=9;tell x;}}", 9, 1);
+        Checks.runAll(house);
+        CHECKS.same("told", Checks.told(house).replace("@0", ""), "0,1,0,1,5,6,607,0,3,3,4,0,1,0,8,7,17,9");
+    }
+
+    /** Ten bodies with sixteen locals each, and messages between that leave nothing behind. */
+    private static void manyLocals() {
+        StringBuilder vars = new StringBuilder();
+        StringBuilder sum = new StringBuilder("k");
+        for (int i = 1; i <= 15; i++) {
+            vars.append("var v").append(i).append(":int=k+").append(i).append(";");
+            sum.append("+v").append(i);
+        }
+        ActorHouse house = CHECKS.started("actor Main{var n:int;new(){tell this.f(8);}fun ref f(k:int):int{" + vars
+            + "this!hi(k);this!hi(v3);if k{v1=v1+this.f(k-1);}tell 1+(2+(3+(4+(5+6))));return " + sum + ";}be hi(n:int){}}", 9, 6);
+        for (int i = 0; i < 40; i++) {
+            house.step(0, 200);
+        }
+        CHECKS.isTrue("it waits for its own mailbox", house.world(6) > 0);
+        house = CHECKS.started("actor Main{var n:int;var w:W;new(){this.w=new W();tell this.f(8);}fun ref f(k:int):int{" + vars
+            + "this.w!hi(k);this.w!hi(v3);if k{v1=v1+this.f(k-1);}tell 1+(2+(3+(4+(5+6))));return " + sum
+            + ";}}actor W{new(){}be hi(n:int){}}", 9, 6);
+        Checks.runAll(house);
+        StringBuilder due = new StringBuilder();
+        int all = 0;
+        for (int k = 0; k <= 8; k++) {
+            due.append("21,");
+            all += 16 * k + 120;
+        }
+        CHECKS.same("told", Checks.told(house).replace("@0", ""), due.toString() + all);
+        CHECKS.same("no fails", house.world(7), 0);
     }
 
     private static void callsAndBodies() {
@@ -273,6 +344,16 @@ public final class RunTest {
         CHECKS.same("objects of all cells", house.world(1), 199);
         CHECKS.same("cells of them", house.world(2), 399);
         CHECKS.same("fails", house.actor(0, 4), 2);
+    }
+
+    private static void manyObjects() {
+        ActorHouse house = CHECKS.started("class A{new(){}}actor Main{new(){while 1{new A();}}}", 400, 1);
+        for (int i = 0; i < 20; i++) {
+            house.step(0, 200);
+        }
+        CHECKS.same("objects of one cell each", house.world(1), 399);
+        CHECKS.same("cells", house.world(2), 400);
+        CHECKS.same("the next one fails", house.actor(0, 4), 2);
     }
 
     private static void failBodies() {
