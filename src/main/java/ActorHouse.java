@@ -2234,6 +2234,7 @@ public final class ActorHouse {
         private final int[] stamps;
         private final int[] open;
         private final int[] nextField;
+        private int count;
         private int stamp;
         private int depth;
 
@@ -2242,25 +2243,41 @@ public final class ActorHouse {
             stamps = new int[MOST_CELLS + 1];
             open = new int[MOST_CELLS + 1];
             nextField = new int[MOST_CELLS + 1];
+            count = 0;
             stamp = 0;
             depth = 0;
         }
 
         void clear() {
             written.setLength(0);
+            count = 0;
             stamp++;
         }
 
+        /** How many characters were written, those that are not kept among them. */
         int length() {
-            return written.length();
+            return count;
         }
 
         int at(int k) {
-            return k < 0 || k >= written.length() || k >= MOST_OUTPUT ? 0 : written.charAt(k);
+            return k < 0 || k >= written.length() ? 0 : written.charAt(k);
+        }
+
+        private void put(char c) {
+            if (count < MOST_OUTPUT) {
+                written.append(c);
+            }
+            count++;
+        }
+
+        private void putAll(String text) {
+            for (int i = 0; i < text.length(); i++) {
+                put(text.charAt(i));
+            }
         }
 
         void writeField(World world, Actor actor, int f) {
-            if (f >= 0 && f < actor.kind.fields.size()) {
+            if (world.code != null && f >= 0 && f < actor.kind.fields.size()) {
                 writeValue(world, actor.kind.fields.get(f).type, world.cell(actor.start + 1 + f));
             }
         }
@@ -2270,15 +2287,15 @@ public final class ActorHouse {
             if (method == null) {
                 return;
             }
-            written.append(method.name);
-            written.append('(');
+            putAll(method.name);
+            put('(');
             for (int i = 0; i < method.parameters.size(); i++) {
                 if (i > 0) {
-                    written.append(',');
+                    put(',');
                 }
                 writeValue(world, method.parameters.get(i).type, actor.messageArgument(k, i));
             }
-            written.append(')');
+            put(')');
         }
 
         /** Objects may lie deep in one another, so those that are open stand in rows, not in calls. */
@@ -2290,16 +2307,16 @@ public final class ActorHouse {
                 int f = nextField[depth - 1];
                 Kind kind = world.code.kind(world.cell(world.fieldsOf(object) - 1));
                 if (kind == null || f >= kind.fields.size()) {
-                    written.append('}');
+                    put('}');
                     depth--;
                 } else {
                     nextField[depth - 1] = f + 1;
                     if (f > 0) {
-                        written.append(',');
+                        put(',');
                     }
                     Decl field = kind.fields.get(f);
-                    written.append(field.name);
-                    written.append(':');
+                    putAll(field.name);
+                    put(':');
                     writeHead(world, field.type, world.cell(world.fieldsOf(object) + f));
                 }
             }
@@ -2311,10 +2328,10 @@ public final class ActorHouse {
             if (sortOf(type) == INT) {
                 writeNumber(value);
             } else if (value == 0 || kind == null) {
-                written.append("none");
+                putAll("none");
             } else {
-                written.append(kind.title);
-                written.append(sortOf(type) == ACTOR ? '@' : '#');
+                putAll(kind.title);
+                put(sortOf(type) == ACTOR ? '@' : '#');
                 writeNumber(sortOf(type) == ACTOR ? value - 1 : value);
                 if (sortOf(type) == OBJECT) {
                     openObject(value);
@@ -2326,7 +2343,7 @@ public final class ActorHouse {
         private void writeNumber(int value) {
             long rest = value;
             if (rest < 0) {
-                written.append('-');
+                put('-');
                 rest = -rest;
             }
             long unit = 1;
@@ -2334,7 +2351,7 @@ public final class ActorHouse {
                 unit *= 10;
             }
             for (; unit > 0; unit /= 10) {
-                written.append((char) ('0' + rest / unit % 10));
+                put((char) ('0' + rest / unit % 10));
             }
         }
 
@@ -2343,7 +2360,7 @@ public final class ActorHouse {
                 return;
             }
             stamps[object] = stamp;
-            written.append('{');
+            put('{');
             open[depth] = object;
             nextField[depth] = 0;
             depth++;
