@@ -1,13 +1,42 @@
+import java.io.IOException;
+import java.nio.file.Files;
+import java.nio.file.Path;
+
 /** What the tests share: texts are fed in, answers are compared, and what is wrong is printed and counted. */
 final class Checks {
+    private static final Path DOCUMENT = Path.of("../shared/DOC.md");
+
     private int count;
     private int wrong;
+    private String sentence = "";
+    private String document;
+
+    /**
+     * What comes next is a test of these words. They must stand in the document, so that a test can't
+     * outlive the sentence that it is for.
+     */
+    void sentence(String words) {
+        sentence = "[" + words + "] ";
+        if (document == null) {
+            document = readDocument();
+        }
+        isTrue("these words stand in the document", document.isEmpty() || document.contains(words));
+    }
+
+    /** Blanks and lines' ends are all one; empty where there is no document to read. */
+    private static String readDocument() {
+        try {
+            return Files.isReadable(DOCUMENT) ? Files.readString(DOCUMENT).replaceAll("\\s+", " ") : "";
+        } catch (IOException e) {
+            return "";
+        }
+    }
 
     void same(String what, long got, long due) {
         count++;
         if (got != due) {
             wrong++;
-            System.out.println(what + " answered " + got + ", due is " + due);
+            System.out.println(sentence + what + " answered " + got + ", due is " + due);
         }
     }
 
@@ -15,7 +44,7 @@ final class Checks {
         count++;
         if (!got.equals(due)) {
             wrong++;
-            System.out.println(what + " is '" + got + "', due is '" + due + "'");
+            System.out.println(sentence + what + " is '" + got + "', due is '" + due + "'");
         }
     }
 
@@ -88,14 +117,26 @@ final class Checks {
     /** The text, without its one mark ^, has a fault where the mark stands. */
     void bad(int number, String marked) {
         int place = marked.indexOf('^');
-        String text = marked.substring(0, place) + marked.substring(place + 1);
+        bad(number, place, marked.substring(0, place) + marked.substring(place + 1));
+    }
+
+    void bad(int number, int place, String text) {
         ActorHouse house = new ActorHouse();
         write(house, text);
-        same("build() of " + marked, house.build(), ActorHouse.NONE);
-        same("fault(0) of " + marked, house.fault(0), number);
-        same("fault(1) of " + marked, house.fault(1), place);
+        same("build() of " + text, house.build(), ActorHouse.NONE);
+        same("fault(0) of " + text, house.fault(0), number);
+        same("fault(1) of " + text, house.fault(1), place);
         same("program(0) behind a fault", house.program(0), ActorHouse.NONE);
         isFalse("start behind a fault", house.start(100, 3));
+    }
+
+    /** The text, without its one mark ^, has no fault, or this one where the mark stands. */
+    void verdict(boolean isGood, int number, String marked) {
+        if (isGood) {
+            good(marked.replace("^", ""));
+        } else {
+            bad(number, marked);
+        }
     }
 
     static String output(ActorHouse house) {

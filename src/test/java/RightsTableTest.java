@@ -50,27 +50,19 @@ public final class RightsTableTest {
         for (int a = 0; a < 5; a++) {
             for (int b = 0; b < 5; b++) {
                 String fits = "class A{new(){}}actor Main{new(){var x:" + caps[b] + " A=^new " + caps[a] + " A();}}";
-                verdict(fits, AS_GOOD[a].charAt(b) == '1');
+                CHECKS.verdict(AS_GOOD[a].charAt(b) == '1', 6, fits);
                 String seen = "class B{new(){}}class A{var f:" + caps[b] + " B;new(){}fun ref u(x:" + caps[a]
                     + " A){x.^f;}}actor Main{new(){}}";
-                verdict(seen, SEEN[a].charAt(b) != '-');
+                CHECKS.verdict(SEEN[a].charAt(b) != '-', 6, seen);
                 String swapped = "class B{new(){}}class A{var f:" + caps[b] + " B;new(){}fun ref u(x:" + caps[a]
                     + " A){swap(x.^f,none);}}actor Main{new(){}}";
-                verdict(swapped, SWAPPED[a].charAt(b) != '-');
+                CHECKS.verdict(SWAPPED[a].charAt(b) != '-', 6, swapped);
                 if (a < 3) {
                     String safe = "class B{new(){}}class A{var f:box B;new(){}fun ref u(x:" + caps[a] + " A,y:"
                         + caps[b] + " B){x.f=^consume y;}}actor Main{new(){}}";
-                    verdict(safe, SAFE[a].charAt(b) == '1');
+                    CHECKS.verdict(SAFE[a].charAt(b) == '1', 6, safe);
                 }
             }
-        }
-    }
-
-    private static void verdict(String marked, boolean good) {
-        if (good) {
-            CHECKS.good(marked.replace("^", ""));
-        } else {
-            CHECKS.bad(6, marked);
         }
     }
 }
