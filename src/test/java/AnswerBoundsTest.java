@@ -12,6 +12,7 @@ public final class AnswerBoundsTest {
         toldWhat();
         toldKept();
         toldAtBounds();
+        toldBehindMore();
         showNumbers();
         showRefused();
         showOfEachActor();
@@ -164,6 +165,27 @@ public final class AnswerBoundsTest {
             sum += house.told(k, 1);
         }
         CHECKS.same("actors 1 to 11 told", sum, 66);
+    }
+
+    /** What was told ahead of a start or a build is not told any more. */
+    private static void toldBehindMore() {
+        CHECKS.sentence("nothing told");
+        ActorHouse house = teller(201);
+        CHECKS.isTrue("start again", house.start(9, 1));
+        noneTold(house, 0);
+        house.step(0, 20);
+        CHECKS.same("numbers told", house.world(4), 1);
+        CHECKS.same("told(0, 0)", house.told(0, 0), 1);
+        noneTold(house, 1);
+        house.build();
+        noneTold(house, 0);
+    }
+
+    private static void noneTold(ActorHouse house, int from) {
+        for (int k = from; k <= 201; k++) {
+            CHECKS.same("told(" + k + ", 0)", house.told(k, 0), 0);
+            CHECKS.same("told(" + k + ", 1)", house.told(k, 1), 0);
+        }
     }
 
     private static void showNumbers() {
@@ -478,7 +500,7 @@ public final class AnswerBoundsTest {
 
     private static void greatNumbers() {
         CHECKS.sentence("an object: its TITLE, #, its number");
-        for (int count = 8; count <= 398; count += count < 12 || count > 390 ? 1 : 26) {
+        for (int count : new int[] {0, 7, 8, 9, 10, 97, 98, 99, 100, 396, 397, 398}) {
             ActorHouse house = CHECKS.started("class A{new(){}}actor Main{new(){var k:int=0;while k<" + count + "{k=k+1;new A();}"
                 + "this!b(new iso A());}be b(a:iso A){}}", 400, 1);
             for (int i = 0; (house.actor(0, 1) > 0 || i == 0) && i < 10000; i++) {
