@@ -216,26 +216,25 @@ public final class GrammarBoundsTest {
 
     private static void bodyAndSteps() {
         CHECKS.sentence("EXPRS and BLOCKS lie at most 24 in one another (a body is 1, an EXPR of one of its STEPS 2");
-        String[] steps = {"var x:int=^1;", "if ^1{}", "if ^1{}else{}", "while ^1{}", "tell ^1;", "^this.n=1;", "^1;", "^this!b(1);"};
+        String[] steps = {"var x:int=^1;", "if ^1{}", "if ^1{}else{}", "while ^1{}", "tell ^1;", "^this.n=1;", "^1;", "^this;"};
         for (String step : steps) {
-            boolean hasArgument = step.contains("!b");
-            CHECKS.good(blocks(22, step).replace("^", ""));
-            CHECKS.verdict(true, 1, hasArgument ? blocks(22, step) : blocks(23, step));
-            CHECKS.bad(1, blocks(24, step));
+            for (int depth = 1; depth <= 24; depth++) {
+                CHECKS.verdict(depth <= 23, 1, blocks(depth, step));
+            }
         }
+        CHECKS.good(blocks(22, "this!b(1);"));
         CHECKS.bad(1, blocks(23, "this!b(^1);"));
     }
 
     private static void assignmentsDeep() {
         CHECKS.sentence("EXPRS and BLOCKS lie at most 24 in one another");
         for (int depth = 22; depth <= 26; depth++) {
-            String mark = depth <= 24 ? "" : "^";
             String left = DEEP + deep(depth, "this.n") + "=1;" + REST;
             String right = DEEP + "this.n=" + deep(depth, "1") + ";" + REST;
             String var = DEEP + "var x:int=" + deep(depth, "1") + ";" + REST;
             for (String text : new String[] {left, right, var}) {
                 int at = text.indexOf("(((") + 23;
-                CHECKS.verdict(mark.isEmpty(), 1, text.substring(0, at) + "^" + text.substring(at));
+                CHECKS.verdict(depth <= 24, 1, text.substring(0, at) + "^" + text.substring(at));
             }
         }
     }
