@@ -79,12 +79,13 @@ final class Checks {
 
     /** The text of a new house, or of one whose text is empty, becomes this one. */
     static void write(ActorHouse house, String text) {
-        StringBuilder padded = new StringBuilder(text);
-        while (padded.length() % 20 != 0) {
-            padded.append(' ');
-        }
-        for (int i = 0; i < padded.length(); i += 20) {
-            feed(house, padded.substring(i, i + 20));
+        for (int i = 0; i < text.length(); i += 20) {
+            int[] words = new int[5];
+            for (int k = 0; k < 20; k++) {
+                char c = i + k < text.length() ? text.charAt(i + k) : ' ';
+                words[k / 4] = words[k / 4] << 8 | c;
+            }
+            house.feed(words[0], words[1], words[2], words[3], words[4]);
         }
         house.end(text.length());
     }
